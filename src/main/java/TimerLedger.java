@@ -825,8 +825,9 @@ public final class TimerLedger {
                 return entry.fixedSeconds;
             }
             int sum = 0;
-            for (int day = 0; day < DAYS; day++) {
-                sum += secondsInDay(entry, day);
+            int first = entry.number * DAYS;
+            for (int cell = Math.max(0, first); cell < first + DAYS && cell < cells.length; cell++) {
+                sum += cells[cell];
             }
             return sum;
         }

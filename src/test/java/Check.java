@@ -8,7 +8,7 @@ final class Check {
         }
     }
 
-    /** The call must throw exactly this exception, no subclass of it, and leave the ledger as it was. */
+    /** The call must throw exactly this exception, no subclass of it, and leave the ledger as it was and consistent. */
     void refuses(String what, TimerLedger ledger, Class<? extends RuntimeException> due, Runnable call) {
         String before = Snapshot.of(ledger);
         try {
@@ -18,10 +18,20 @@ final class Check {
             if (thrown.getClass() != due) {
                 report(what + " threw " + thrown.getClass().getName() + ", due is " + due.getName());
             }
+            if (!isThrownByTheClass(thrown)) {
+                report(what + " left the throwing to the machine or the library");
+            }
         }
+        same(what + ": isConsistent afterwards", ledger.isConsistent(), true);
         if (!before.equals(Snapshot.of(ledger))) {
             report(what + " changed the ledger though it threw");
         }
+    }
+
+    /** An index that the class did not look at would be refused by an array or a list, with a trace that begins there. */
+    static boolean isThrownByTheClass(Throwable thrown) {
+        StackTraceElement[] trace = thrown.getStackTrace();
+        return trace.length > 0 && trace[0].getClassName().startsWith("TimerLedger");
     }
 
     void refusesIndex(String what, TimerLedger ledger, Runnable call) {

@@ -189,6 +189,13 @@ public final class CorrectionsAndBudgetsTest {
             small.addEntry(0, 0, entry == 0 ? 1 : 0);
         }
         mean("a small mean", small, 60.0 / 60.0 / 23.0);
+        for (int minutes = 1; minutes <= 64; minutes *= 2) {
+            TimerLedger even = withClient(1, 'u', 'e', 100);
+            even.addEntry(0, 0, minutes);
+            mean("a power of two", even, (double) minutes);
+            even.addEntry(0, 0, 0);
+            mean("half of it", even, minutes / 2.0);
+        }
     }
 
     private static void meansAreRefused() {

@@ -12,6 +12,7 @@ public final class InvoicesTest {
         correctionsAlone();
         amounts();
         totalsAreSumsOfFloats();
+        totalsOfPowersOfTwo();
         negativeTotals();
         laterChanges();
         invoicesAreRefused();
@@ -178,6 +179,20 @@ public final class InvoicesTest {
         }
         ledger.invoice(0);
         total("a great total", ledger, 0, due);
+    }
+
+    private static void totalsOfPowersOfTwo() {
+        int[] rates = {15, 30, 60, 120, 240, 480, 960, 30720};
+        float[] dues = {0.25f, 0.5f, 1.0f, 2.0f, 4.0f, 8.0f, 16.0f, 512.0f};
+        for (int i = 0; i < rates.length; i++) {
+            TimerLedger ledger = withClient(1, 'u', 'e', rates[i], 100);
+            ledger.addEntry(0, 0, 1);
+            ledger.invoice(0);
+            total("a power of two", ledger, 0, dues[i]);
+            ledger.correct(0, -1);
+            ledger.invoice(0);
+            total("a negative power of two", ledger, 1, -dues[i]);
+        }
     }
 
     private static void negativeTotals() {

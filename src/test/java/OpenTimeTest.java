@@ -5,6 +5,8 @@ public final class OpenTimeTest {
     public static void main(String[] args) {
         modes();
         nearestInTheMiddle();
+        oneSecondMore();
+        linesAlone();
         byEntry();
         carried();
         carriedInTheOrderOfStarts();
@@ -74,6 +76,31 @@ public final class OpenTimeTest {
         check.same("30 seconds go up", ledger.rounded(0), 1);
         ledger.addEntry(0, 0, 1);
         check.same("20 seconds go down", ledger.rounded(0), 0);
+    }
+
+    private static void oneSecondMore() {
+        TimerLedger ledger = withClient(1, 'u', 'e', 100);
+        for (int entry = 0; entry < 8; entry++) {
+            ledger.addEntry(0, 0, 43);
+        }
+        ledger.setRule('s');
+        check.same("43 times 7 seconds", ledger.counted(7), 301);
+        check.same("one second more goes up", ledger.rounded(7), 6);
+        ledger.setRounding(0, 1, 'd', 'e');
+        check.same("one second more goes down", ledger.rounded(7), 5);
+        ledger.setRounding(0, 1, 'n', 'e');
+        check.same("one second more, to the nearest", ledger.rounded(7), 5);
+        check.same("44 seconds more, to the nearest", ledger.rounded(0), 6);
+    }
+
+    private static void linesAlone() {
+        TimerLedger ledger = withClient(10, 'u', 'c', 100);
+        ledger.addClient(1, 'u', 'e', 0);
+        ledger.addEntry(0, 0, 5);
+        check.same("lines asked first", ledger.openMinutesByLines(0), 10);
+        check.same("then another client's", ledger.openMinutesByLines(1), 0);
+        ledger.addEntry(1, 0, 5);
+        check.same("after a change", ledger.openMinutesByLines(1), 5);
     }
 
     private static void byEntry() {

@@ -10,6 +10,7 @@ public final class TimeAndClientsTest {
         addingClients();
         addingClientsIsRefused();
         roundings();
+        levelsOfRoundings();
         roundingsAreRefused();
         rates();
         budgets();
@@ -114,6 +115,24 @@ public final class TimeAndClientsTest {
         check.same("new rounding", ledger.setRounding(0, 2, 'n', 'd'), 60);
         check.same("nearest to 2, in the middle", ledger.openMinutes(0), 62);
         check.same("new rounding", ledger.setRounding(0, 1, 'u', 'e'), 2);
+    }
+
+    private static void levelsOfRoundings() {
+        TimerLedger ledger = new TimerLedger();
+        ledger.addClient(10, 'u', 'e', 0);
+        for (int i = 0; i < 2; i++) {
+            ledger.pass(600);
+        }
+        ledger.addEntry(0, 0, 1);
+        ledger.addEntry(0, 1, 2);
+        ledger.addEntry(0, 601, 602);
+        check.same("by entry", ledger.openMinutes(0), 30);
+        ledger.setRounding(0, 10, 'u', 'd');
+        check.same("by day", ledger.openMinutes(0), 20);
+        ledger.setRounding(0, 10, 'u', 'c');
+        check.same("carried", ledger.openMinutes(0), 10);
+        ledger.setRounding(0, 10, 'u', 'e');
+        check.same("by entry again", ledger.openMinutes(0), 30);
     }
 
     private static void roundingsAreRefused() {
