@@ -928,8 +928,8 @@ public final class TimerLedger {
                 return entry.owner.roundSeconds(tally.secondsOf(entry));
             }
             int before = secondsOfFirst(place);
-            int with = before + tally.secondsOf(entry);
-            return entry.owner.roundSeconds(with) - entry.owner.roundSeconds(before);
+            int upToThis = before + tally.secondsOf(entry);
+            return entry.owner.roundSeconds(upToThis) - entry.owner.roundSeconds(before);
         }
 
         int minutesFor(Client owner) {
