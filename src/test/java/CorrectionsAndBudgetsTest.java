@@ -4,15 +4,11 @@ public final class CorrectionsAndBudgetsTest {
 
     public static void main(String[] args) {
         correcting();
-        correctingIsRefused();
-        sixteenCorrections();
         usedMinutes();
         shares();
         warnings();
         warningAtTheShare();
-        budgetsAreRefused();
         means();
-        meansAreRefused();
         consistency();
         check.end();
     }
@@ -44,43 +40,6 @@ public final class CorrectionsAndBudgetsTest {
         check.same("the other client's wait", ledger.correct(1, 1), 10);
         check.same("counted stays", ledger.counted(0), 300);
         check.same("state stays", ledger.state(0), 'f');
-    }
-
-    private static void correctingIsRefused() {
-        TimerLedger ledger = withClient(15, 'u', 'e', 100);
-        check.refusesIndex("no entry", ledger, () -> ledger.correct(0, 1));
-        ledger.addEntry(0, 0, 5);
-        ledger.start(0);
-        ledger.addEntry(0, 0, 5);
-        ledger.remove(2);
-        check.refusesState("an ended one", ledger, () -> ledger.correct(0, 1));
-        check.refusesState("a running one", ledger, () -> ledger.correct(1, 1));
-        check.refusesState("a removed one", ledger, () -> ledger.correct(2, 1));
-        check.refusesArgument("an ended one by 0", ledger, () -> ledger.correct(0, 0));
-        check.refusesIndex("entry -1", ledger, () -> ledger.correct(-1, 1));
-        check.refusesIndex("entry 3 by 0", ledger, () -> ledger.correct(3, 0));
-        ledger.invoice(0);
-        check.refusesArgument("by 0", ledger, () -> ledger.correct(0, 0));
-        check.refusesArgument("by 601", ledger, () -> ledger.correct(0, 601));
-        check.refusesArgument("by -601", ledger, () -> ledger.correct(0, -601));
-        check.refusesArgument("by the least int", ledger, () -> ledger.correct(0, Integer.MIN_VALUE));
-        check.same("nothing was kept", ledger.correct(0, 1), 1);
-    }
-
-    private static void sixteenCorrections() {
-        TimerLedger ledger = withClient(15, 'u', 'e', 100);
-        ledger.addEntry(0, 0, 5);
-        ledger.invoice(0);
-        for (int i = 1; i <= 16; i++) {
-            check.same("a correction", ledger.correct(0, 2), i <= 8 ? 2 * i : 2 * (i - 8));
-            if (i == 8) {
-                ledger.invoice(0);
-            }
-        }
-        check.refusesState("correction 16", ledger, () -> ledger.correct(0, 2));
-        check.refusesArgument("correction 16 by 0", ledger, () -> ledger.correct(0, 0));
-        ledger.invoice(0);
-        check.refusesState("invoiced ones count", ledger, () -> ledger.correct(0, 2));
     }
 
     private static void usedMinutes() {
@@ -147,20 +106,6 @@ public final class CorrectionsAndBudgetsTest {
         }
     }
 
-    private static void budgetsAreRefused() {
-        TimerLedger ledger = withClient(1, 'u', 'e', 100);
-        check.refuses("no budget", ledger, ArithmeticException.class, () -> ledger.budgetShare(0));
-        for (int client : new int[] {-1, 1, 5, Integer.MAX_VALUE}) {
-            check.refusesIndex("usedMinutes " + client, ledger, () -> ledger.usedMinutes(client));
-            check.refusesIndex("budgetShare " + client, ledger, () -> ledger.budgetShare(client));
-            check.refusesIndex("warning " + client, ledger, () -> ledger.warning(client));
-        }
-        ledger.setBudget(0, 1);
-        ledger.setBudget(0, 0);
-        ledger.addEntry(0, 0, 9);
-        check.refuses("no budget, something used", ledger, ArithmeticException.class, () -> ledger.budgetShare(0));
-    }
-
     private static void mean(String what, TimerLedger ledger, double due) {
         check.same(what + ": meanMinutes", ledger.meanMinutes(), due);
         check.same(what + ": meanBits", ledger.meanBits(), Double.doubleToLongBits(due));
@@ -196,16 +141,6 @@ public final class CorrectionsAndBudgetsTest {
             even.addEntry(0, 0, 0);
             mean("half of it", even, minutes / 2.0);
         }
-    }
-
-    private static void meansAreRefused() {
-        TimerLedger ledger = withClient(1, 'u', 'e', 100);
-        check.refuses("mean of nothing", ledger, ArithmeticException.class, () -> ledger.meanMinutes());
-        check.refuses("bits of nothing", ledger, ArithmeticException.class, () -> ledger.meanBits());
-        ledger.addEntry(0, 0, 5);
-        ledger.remove(0);
-        check.refuses("mean of a removed one", ledger, ArithmeticException.class, () -> ledger.meanMinutes());
-        check.refuses("bits of a removed one", ledger, ArithmeticException.class, () -> ledger.meanBits());
     }
 
     private static void consistency() {

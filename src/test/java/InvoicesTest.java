@@ -15,9 +15,6 @@ public final class InvoicesTest {
         totalsOfPowersOfTwo();
         negativeTotals();
         laterChanges();
-        invoicesAreRefused();
-        eightInvoices();
-        queriesAreRefused();
         check.end();
     }
 
@@ -219,64 +216,5 @@ public final class InvoicesTest {
         check.same("lines stay", Snapshot.linesOf(ledger, 0), "e0:30 e1:30");
         check.same("amounts stay", ledger.lineAmount(0, 1), 3000.0f);
         total("stays", ledger, 0, 6000.0f);
-    }
-
-    private static void invoicesAreRefused() {
-        TimerLedger ledger = withClient(15, 'u', 'e', 6000, 100);
-        ledger.addClient(15, 'u', 'e', 6000);
-        check.refusesIndex("client 2", ledger, () -> ledger.invoice(2));
-        check.refusesIndex("client -1", ledger, () -> ledger.invoice(-1));
-        check.refusesState("no entry", ledger, () -> ledger.invoice(0));
-        ledger.addEntry(1, 0, 5);
-        check.refusesState("another client's entry", ledger, () -> ledger.invoice(0));
-        ledger.start(0);
-        check.refusesState("a running entry alone", ledger, () -> ledger.invoice(0));
-        ledger.remove(1);
-        check.refusesState("a removed entry alone", ledger, () -> ledger.invoice(0));
-        ledger.invoice(1);
-        check.refusesState("a frozen entry alone", ledger, () -> ledger.invoice(1));
-        ledger.correct(0, 5);
-        check.refusesState("another client's correction", ledger, () -> ledger.invoice(0));
-        ledger.invoice(1);
-        check.refusesState("a correction that was in an invoice", ledger, () -> ledger.invoice(1));
-    }
-
-    private static void eightInvoices() {
-        TimerLedger ledger = withClient(15, 'u', 'e', 6000, 100);
-        for (int invoice = 0; invoice < 8; invoice++) {
-            ledger.addEntry(0, 0, 5);
-            check.same("an invoice", ledger.invoice(0), invoice);
-        }
-        ledger.addEntry(0, 0, 5);
-        check.refusesState("invoice 8", ledger, () -> ledger.invoice(0));
-        check.refusesIndex("invoice 8 for no client", ledger, () -> ledger.invoice(1));
-        check.same("the entry stays open", ledger.state(8), 'e');
-        check.same("invoices", ledger.invoices(), 8);
-    }
-
-    private static void queriesAreRefused() {
-        TimerLedger ledger = withClient(15, 'u', 'e', 6000, 100);
-        check.refusesIndex("lines without invoices", ledger, () -> ledger.lines(0));
-        ledger.addEntry(0, 0, 5);
-        ledger.addEntry(0, 0, 5);
-        ledger.invoice(0);
-        for (int invoice : new int[] {-1, 1, 8, Integer.MAX_VALUE, Integer.MIN_VALUE}) {
-            check.refusesIndex("lines " + invoice, ledger, () -> ledger.lines(invoice));
-            check.refusesIndex("total " + invoice, ledger, () -> ledger.total(invoice));
-            check.refusesIndex("totalBits " + invoice, ledger, () -> ledger.totalBits(invoice));
-            check.refusesIndex("totalCents " + invoice, ledger, () -> ledger.totalCents(invoice));
-            lineIsRefused(ledger, invoice, 0);
-        }
-        for (int line : new int[] {-1, 2, Integer.MAX_VALUE, Integer.MIN_VALUE}) {
-            lineIsRefused(ledger, 0, line);
-        }
-    }
-
-    private static void lineIsRefused(TimerLedger ledger, int invoice, int line) {
-        String where = " " + invoice + " " + line;
-        check.refusesIndex("lineKind" + where, ledger, () -> ledger.lineKind(invoice, line));
-        check.refusesIndex("lineMinutes" + where, ledger, () -> ledger.lineMinutes(invoice, line));
-        check.refusesIndex("lineSubject" + where, ledger, () -> ledger.lineSubject(invoice, line));
-        check.refusesIndex("lineAmount" + where, ledger, () -> ledger.lineAmount(invoice, line));
     }
 }

@@ -14,9 +14,6 @@ public final class OpenTimeTest {
         dayBorders();
         daysOfAllLevels();
         openOnesOnly();
-        roundedIsRefused();
-        daysAreRefused();
-        openMinutesAreRefused();
         check.end();
     }
 
@@ -206,44 +203,5 @@ public final class OpenTimeTest {
         ledger.remove(1);
         open("removed ones are not open", ledger, 0, 0);
         day("removed ones do not count", ledger, 0, 0, 0);
-    }
-
-    private static void roundedIsRefused() {
-        TimerLedger ledger = withClient(10, 'u', 'd', 100);
-        check.refusesIndex("no entry", ledger, () -> ledger.rounded(0));
-        ledger.addEntry(0, 0, 5);
-        check.refuses("by day", ledger, UnsupportedOperationException.class, () -> ledger.rounded(0));
-        check.refusesIndex("entry -1", ledger, () -> ledger.rounded(-1));
-        check.refusesIndex("entry 1", ledger, () -> ledger.rounded(1));
-        ledger.addEntry(0, 0, 5);
-        ledger.remove(1);
-        check.refusesState("removed and by day", ledger, () -> ledger.rounded(1));
-        ledger.invoice(0);
-        check.refusesState("frozen and by day", ledger, () -> ledger.rounded(0));
-        ledger.setRounding(0, 10, 'u', 'e');
-        check.refusesState("frozen", ledger, () -> ledger.rounded(0));
-        check.refusesState("removed", ledger, () -> ledger.rounded(1));
-    }
-
-    private static void daysAreRefused() {
-        TimerLedger ledger = withClient(10, 'u', 'd', 100);
-        for (int day : new int[] {-1, 5, Integer.MAX_VALUE, Integer.MIN_VALUE}) {
-            check.refusesArgument("daySeconds " + day, ledger, () -> ledger.daySeconds(0, day));
-            check.refusesArgument("daySecondsByMinutes " + day, ledger, () -> ledger.daySecondsByMinutes(0, day));
-            check.refusesIndex("daySeconds of no client " + day, ledger, () -> ledger.daySeconds(1, day));
-            check.refusesIndex("daySecondsByMinutes of no client " + day, ledger, () -> ledger.daySecondsByMinutes(-1, day));
-        }
-        check.refusesIndex("daySeconds of client -1", ledger, () -> ledger.daySeconds(-1, 0));
-        check.refusesIndex("daySecondsByMinutes of client 1", ledger, () -> ledger.daySecondsByMinutes(1, 0));
-        day("a day to come", ledger, 0, 4, 0);
-    }
-
-    private static void openMinutesAreRefused() {
-        TimerLedger ledger = withClient(10, 'u', 'd', 100);
-        for (int client : new int[] {-1, 1, 5, Integer.MIN_VALUE}) {
-            check.refusesIndex("openMinutes " + client, ledger, () -> ledger.openMinutes(client));
-            check.refusesIndex("openMinutesByLines " + client, ledger, () -> ledger.openMinutesByLines(client));
-        }
-        open("without entries", ledger, 0, 0);
     }
 }

@@ -5,13 +5,10 @@ public final class TimeAndClientsTest {
     public static void main(String[] args) {
         newObject();
         passing();
-        passingIsRefused();
         rules();
         addingClients();
-        addingClientsIsRefused();
         roundings();
         levelsOfRoundings();
-        roundingsAreRefused();
         rates();
         budgets();
         check.end();
@@ -46,33 +43,12 @@ public final class TimeAndClientsTest {
         check.same("now at the last minute", ledger.now(), 2999);
     }
 
-    private static void passingIsRefused() {
-        TimerLedger ledger = new TimerLedger();
-        check.refusesArgument("pass 0", ledger, () -> ledger.pass(0));
-        check.refusesArgument("pass -1", ledger, () -> ledger.pass(-1));
-        check.refusesArgument("pass 601", ledger, () -> ledger.pass(601));
-        check.refusesArgument("pass the greatest int", ledger, () -> ledger.pass(Integer.MAX_VALUE));
-        check.refusesArgument("pass the least int", ledger, () -> ledger.pass(Integer.MIN_VALUE));
-        for (int i = 0; i < 4; i++) {
-            ledger.pass(600);
-        }
-        check.refusesState("pass to minute 3000", ledger, () -> ledger.pass(600));
-        ledger.pass(599);
-        check.refusesState("pass 1 from the last minute", ledger, () -> ledger.pass(1));
-        check.refusesArgument("pass 601 from the last minute", ledger, () -> ledger.pass(601));
-    }
-
     private static void rules() {
         TimerLedger ledger = new TimerLedger();
         check.same("rule l", ledger.setRule('l'), 'f');
         check.same("rule s", ledger.setRule('s'), 'l');
         check.same("rule f", ledger.setRule('f'), 's');
         check.same("rule f again", ledger.setRule('f'), 'f');
-        check.refusesArgument("rule x", ledger, () -> ledger.setRule('x'));
-        check.refusesArgument("rule F", ledger, () -> ledger.setRule('F'));
-        check.refusesArgument("rule 0", ledger, () -> ledger.setRule((char) 0));
-        check.refusesArgument("rule 65535", ledger, () -> ledger.setRule((char) 65535));
-        check.same("rule after refusals", ledger.setRule('l'), 'f');
     }
 
     private static void addingClients() {
@@ -84,24 +60,6 @@ public final class TimeAndClientsTest {
         check.same("the rate given", ledger.setRate(1, 1), 50000);
         check.same("the unit given", ledger.setRounding(2, 1, 'u', 'e'), 15);
         check.same("the budget at first", ledger.setBudget(0, 1), 0);
-    }
-
-    private static void addingClientsIsRefused() {
-        TimerLedger ledger = new TimerLedger();
-        check.refusesArgument("unit 0", ledger, () -> ledger.addClient(0, 'u', 'e', 0));
-        check.refusesArgument("unit 61", ledger, () -> ledger.addClient(61, 'u', 'e', 0));
-        check.refusesArgument("mode x", ledger, () -> ledger.addClient(1, 'x', 'e', 0));
-        check.refusesArgument("mode e", ledger, () -> ledger.addClient(1, 'e', 'e', 0));
-        check.refusesArgument("level x", ledger, () -> ledger.addClient(1, 'u', 'x', 0));
-        check.refusesArgument("level u", ledger, () -> ledger.addClient(1, 'u', 'u', 0));
-        check.refusesArgument("rate -1", ledger, () -> ledger.addClient(1, 'u', 'e', -1));
-        check.refusesArgument("rate 50001", ledger, () -> ledger.addClient(1, 'u', 'e', 50001));
-        for (int client = 0; client < 5; client++) {
-            check.same("a client", ledger.addClient(6, 'n', 'c', 100), client);
-        }
-        check.refusesState("client 5", ledger, () -> ledger.addClient(6, 'n', 'c', 100));
-        check.refusesArgument("client 5 with unit 0", ledger, () -> ledger.addClient(0, 'n', 'c', 100));
-        check.same("clients", ledger.clients(), 5);
     }
 
     private static void roundings() {
@@ -135,42 +93,17 @@ public final class TimeAndClientsTest {
         check.same("by entry again", ledger.openMinutes(0), 30);
     }
 
-    private static void roundingsAreRefused() {
-        TimerLedger ledger = new TimerLedger();
-        check.refusesIndex("no client", ledger, () -> ledger.setRounding(0, 1, 'u', 'e'));
-        ledger.addClient(15, 'u', 'e', 0);
-        check.refusesIndex("client -1", ledger, () -> ledger.setRounding(-1, 1, 'u', 'e'));
-        check.refusesIndex("client 1 and unit 0", ledger, () -> ledger.setRounding(1, 0, 'u', 'e'));
-        check.refusesArgument("unit 0", ledger, () -> ledger.setRounding(0, 0, 'u', 'e'));
-        check.refusesArgument("unit 61", ledger, () -> ledger.setRounding(0, 61, 'u', 'e'));
-        check.refusesArgument("mode c", ledger, () -> ledger.setRounding(0, 1, 'c', 'e'));
-        check.refusesArgument("level n", ledger, () -> ledger.setRounding(0, 1, 'u', 'n'));
-        check.same("unit after refusals", ledger.setRounding(0, 1, 'u', 'e'), 15);
-    }
-
     private static void rates() {
         TimerLedger ledger = new TimerLedger();
-        check.refusesIndex("no client", ledger, () -> ledger.setRate(0, 1));
         ledger.addClient(15, 'u', 'e', 7);
         check.same("rate 50000", ledger.setRate(0, 50000), 7);
         check.same("rate 0", ledger.setRate(0, 0), 50000);
-        check.refusesIndex("client -1", ledger, () -> ledger.setRate(-1, 1));
-        check.refusesIndex("client 1 and rate -1", ledger, () -> ledger.setRate(1, -1));
-        check.refusesArgument("rate -1", ledger, () -> ledger.setRate(0, -1));
-        check.refusesArgument("rate 50001", ledger, () -> ledger.setRate(0, 50001));
-        check.same("rate after refusals", ledger.setRate(0, 3), 0);
     }
 
     private static void budgets() {
         TimerLedger ledger = new TimerLedger();
-        check.refusesIndex("no client", ledger, () -> ledger.setBudget(0, 1));
         ledger.addClient(15, 'u', 'e', 7);
         check.same("budget 9999", ledger.setBudget(0, 9999), 0);
         check.same("budget 0", ledger.setBudget(0, 0), 9999);
-        check.refusesIndex("client -1", ledger, () -> ledger.setBudget(-1, 1));
-        check.refusesIndex("client 1 and budget -1", ledger, () -> ledger.setBudget(1, -1));
-        check.refusesArgument("budget -1", ledger, () -> ledger.setBudget(0, -1));
-        check.refusesArgument("budget 10000", ledger, () -> ledger.setBudget(0, 10000));
-        check.same("budget after refusals", ledger.setBudget(0, 3), 0);
     }
 }
