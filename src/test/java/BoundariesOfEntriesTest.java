@@ -41,6 +41,7 @@ public final class BoundariesOfEntriesTest {
         promise22OldContent();
         promise22NoSuchEntry();
         promise23EmptyLine();
+        promise23CountedFrom0();
         promise23Index();
         check.end();
     }
@@ -389,6 +390,14 @@ public final class BoundariesOfEntriesTest {
         check.refusesIndex("0 of a new object", TimerLedger::new, x -> x.charAt(0));
         check.refusesIndex("0 with an entry that is not written", Scenes.entries(1), x -> x.charAt(0));
         check.answers("0 with a written entry", Scenes.entries(1).then(x -> x.writeEntry(0)), x -> x.charAt(0), '0');
+    }
+
+    private static void promise23CountedFrom0() {
+        check.sentence("Promise 23, charAt: `index`: the index, counted from 0");
+        Scene written = Scenes.allStates().then(x -> x.writeEntry(4));
+        check.answers("the first character", written, x -> x.charAt(0), '4');
+        check.answers("the second character", written, x -> x.charAt(1), 'e');
+        check.refusesIndex("none before it", written, x -> x.charAt(-1));
     }
 
     private static void promise23Index() {

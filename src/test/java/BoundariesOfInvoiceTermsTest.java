@@ -105,6 +105,9 @@ public final class BoundariesOfInvoiceTermsTest {
                 check.answers(minutes + " minutes at the rate " + rate, scene, x -> x.lineAmount(0, 0), (float) minutes * (float) rate / 60.0f);
             }
         }
+        // A product behind 2^24 is rounded before it is divided: by doubles, or divided first, it would be 453647.75f or more.
+        Scene rounded = Scenes.client(1, 'u', 'e', 49043, 2999).then(x -> x.addEntry(0, 0, 555)).then(x -> x.invoice(0));
+        check.answers("a product that no float holds", rounded, x -> x.lineAmount(0, 0), 453647.72f);
         check.answers("the rate of that time", Scenes.entries(1).then(x -> x.setRate(0, 60)), x -> x.lineAmount(x.invoice(0), 0), 1.0f);
         check.answers("less than nothing", Scenes.corrections(0).then(x -> x.correct(0, -600)), x -> x.lineAmount(x.invoice(0), 0), -60000.0f);
     }
@@ -135,7 +138,13 @@ public final class BoundariesOfInvoiceTermsTest {
             fromSmall = fromSmall + small;
         }
         check.answers("a great amount first", greatFirst, x -> x.total(x.invoice(0)), fromGreat);
+        check.answers("six amounts that are rounded, and their sums too", sixAmounts(), x -> x.total(x.invoice(0)), 5444123.0f);
         check.answers("a great amount last", greatLast, x -> x.total(x.invoice(0)), fromSmall + 2899.0f * 49999.0f / 60.0f);
+    }
+
+    /** Added as doubles and converted then, the six amounts would be 5444122.5f, and less if they too were doubles. */
+    private static Scene sixAmounts() {
+        return Scenes.client(1, 'u', 'e', 49002, 2999).thenTimes(6, (x, entry) -> x.addEntry(0, 0, 1111));
     }
 
     private static void laterChanges() {
@@ -191,6 +200,8 @@ public final class BoundariesOfInvoiceTermsTest {
         check.answers("an open entry", Scenes.entries(1), x -> x.usedMinutes(0), 1);
         check.answers("8 invoices", Scenes.invoices(8), x -> x.usedMinutes(0), 36);
         check.answers("8 invoices and an open entry", Scenes.invoices(8).then(x -> x.addEntry(0, 0, 1)), x -> x.usedMinutes(0), 37);
+        check.answers("8 invoices and a running entry", Scenes.invoices(8).then(x -> x.start(0)).then(x -> x.pass(2)), x -> x.usedMinutes(0), 38);
+        check.answers("8 invoices and an entry that just started", Scenes.invoices(8).then(x -> x.start(0)), x -> x.usedMinutes(0), 36);
         check.answers("another client's invoice", Scenes.clients(2).then(x -> x.invoice(1)), x -> x.usedMinutes(0), 5);
     }
 

@@ -11,13 +11,17 @@ public final class BoundariesOfInvoicesTest {
         promise31NoSuchInvoice();
         promise32Kinds();
         promise32NoSuchInvoice();
+        promise32CountedFrom0();
         promise32NoSuchLine();
         promise33NoSuchInvoice();
+        promise33CountedFrom0();
         promise33NoSuchLine();
         promise34Subjects();
         promise34NoSuchInvoice();
+        promise34CountedFrom0();
         promise34NoSuchLine();
         promise35NoSuchInvoice();
+        promise35CountedFrom0();
         promise35NoSuchLine();
         promise36NoSuchInvoice();
         promise37Bits();
@@ -106,12 +110,25 @@ public final class BoundariesOfInvoicesTest {
         check.numbers("invoice", Scenes::invoices, 8, (x, invoice) -> x.lineKind(invoice, 0), invoice -> 'e');
     }
 
+    /** The invoice 1 of the entry 1 and of a correction of the entry 0. */
+    private static Scene entryAndCorrection() {
+        return Scenes.frozenEntries(1).then(x -> x.addEntry(0, 5, 6)).then(x -> x.correct(0, -600)).then(x -> x.invoice(0));
+    }
+
     /** Invoice 0 with so many lines; with none, it is about an empty entry, by day. */
     private static Scene lines(int lines) {
         if (lines > 0) {
             return Scenes.frozenEntries(lines);
         }
         return Scenes.client(1, 'u', 'd', 0, 100).then(x -> x.addEntry(0, 5, 5)).then(x -> x.invoice(0));
+    }
+
+    private static void promise32CountedFrom0() {
+        check.sentence("Promise 32, lineKind: `line`: the line, counted from 0");
+        check.answers("the first line", entryAndCorrection(), x -> x.lineKind(1, 0), 'e');
+        check.answers("the second line", entryAndCorrection(), x -> x.lineKind(1, 1), 'c');
+        check.refusesIndex("none before them", entryAndCorrection(), x -> x.lineKind(1, -1));
+        check.refusesIndex("none behind them", entryAndCorrection(), x -> x.lineKind(1, 2));
     }
 
     private static void promise32NoSuchLine() {
@@ -125,6 +142,14 @@ public final class BoundariesOfInvoicesTest {
     private static void promise33NoSuchInvoice() {
         check.sentence("Promise 33, lineMinutes: Throws IndexOutOfBoundsException if there is no such invoice");
         check.numbers("invoice", Scenes::invoices, 8, (x, invoice) -> x.lineMinutes(invoice, 0), invoice -> invoice + 1);
+    }
+
+    private static void promise33CountedFrom0() {
+        check.sentence("Promise 33, lineMinutes: `line`: the line, counted from 0");
+        check.answers("the first line", entryAndCorrection(), x -> x.lineMinutes(1, 0), 1);
+        check.answers("the second line", entryAndCorrection(), x -> x.lineMinutes(1, 1), -600);
+        check.refusesIndex("none before them", entryAndCorrection(), x -> x.lineMinutes(1, -1));
+        check.refusesIndex("none behind them", entryAndCorrection(), x -> x.lineMinutes(1, 2));
     }
 
     private static void promise33NoSuchLine() {
@@ -152,6 +177,14 @@ public final class BoundariesOfInvoicesTest {
         check.numbers("invoice", Scenes::invoices, 8, (x, invoice) -> x.lineSubject(invoice, 0), invoice -> invoice);
     }
 
+    private static void promise34CountedFrom0() {
+        check.sentence("Promise 34, lineSubject: `line`: the line, counted from 0");
+        check.answers("the first line", entryAndCorrection(), x -> x.lineSubject(1, 0), 1);
+        check.answers("the second line", entryAndCorrection(), x -> x.lineSubject(1, 1), 0);
+        check.refusesIndex("none before them", entryAndCorrection(), x -> x.lineSubject(1, -1));
+        check.refusesIndex("none behind them", entryAndCorrection(), x -> x.lineSubject(1, 2));
+    }
+
     private static void promise34NoSuchLine() {
         check.sentence("Promise 34, lineSubject: Throws IndexOutOfBoundsException if there is .. no such line");
         check.numbers("line", BoundariesOfInvoicesTest::lines, 24, (x, line) -> x.lineSubject(0, line), line -> line);
@@ -163,6 +196,14 @@ public final class BoundariesOfInvoicesTest {
     private static void promise35NoSuchInvoice() {
         check.sentence("Promise 35, lineAmount: Throws IndexOutOfBoundsException if there is no such invoice");
         check.numbers("invoice", Scenes::invoices, 8, (x, invoice) -> x.lineAmount(invoice, 0), invoice -> 100.0f * (invoice + 1));
+    }
+
+    private static void promise35CountedFrom0() {
+        check.sentence("Promise 35, lineAmount: `line`: the line, counted from 0");
+        check.answers("the first line", entryAndCorrection(), x -> x.lineAmount(1, 0), 100.0f);
+        check.answers("the second line", entryAndCorrection(), x -> x.lineAmount(1, 1), -60000.0f);
+        check.refusesIndex("none before them", entryAndCorrection(), x -> x.lineAmount(1, -1));
+        check.refusesIndex("none behind them", entryAndCorrection(), x -> x.lineAmount(1, 2));
     }
 
     private static void promise35NoSuchLine() {

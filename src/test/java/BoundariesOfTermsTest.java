@@ -27,6 +27,7 @@ public final class BoundariesOfTermsTest {
         latestRuleOfTheSameStart();
         sharedRule();
         sharedRuleInTheOrderOfNumbers();
+        sumByThePresentRule();
         fixedWhenFrozen();
         check.end();
     }
@@ -338,6 +339,22 @@ public final class BoundariesOfTermsTest {
             int entry = i;
             check.answers("all in one minute: entry " + entry, allInMinute7, x -> x.counted(entry), due[entry]);
         }
+    }
+
+    private static void sumByThePresentRule() {
+        check.sentence("Terms, overlaps: The counted seconds of an entry are the sum over its minutes, by the present rule");
+        // The entry 0 has minutes for itself, shares some with a frozen entry, and some with two more.
+        Scene scene = Scenes.client(100).then(x -> x.addEntry(0, 20, 40)).then(x -> x.invoice(0))
+            .then(x -> x.addEntry(0, 10, 50)).then(x -> x.addEntry(0, 30, 40));
+        char[] rules = {'f', 'l', 's'};
+        int[] dues = {40 * 60, 20 * 60, 20 * 60 + 10 * 30 + 10 * 20};
+        for (int i = 0; i < 3; i++) {
+            char rule = rules[i];
+            check.answers("counted by " + rule, scene.then(x -> x.setRule('s')).then(x -> x.setRule(rule)), x -> x.counted(1), dues[i]);
+            check.answers("countedByMinutes by " + rule, scene.then(x -> x.setRule('l')).then(x -> x.setRule(rule)), x -> x.countedByMinutes(1), dues[i]);
+        }
+        check.answers("no minutes", scene.then(x -> x.setStart(1, 50)), x -> x.counted(1), 0);
+        check.answers("one minute", scene.then(x -> x.setStart(1, 49)), x -> x.counted(1), 60);
     }
 
     private static void fixedWhenFrozen() {

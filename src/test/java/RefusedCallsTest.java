@@ -260,7 +260,7 @@ public final class RefusedCallsTest {
 
     /** What is asked behind a refused call must be such that it tells a change: each allowed call shows in some part of it. */
     private static void allowedCallsChangeSomething() {
-        check.sentence("Terms: A method that throws an exception changes nothing, but one that throws none");
+        check.sentence("Terms: A method that throws an exception changes nothing");
         changes("pass", x -> x.pass(1));
         changes("setRule", x -> x.setRule('f'));
         changes("addClient", x -> x.addClient(1, 'u', 'e', 1));
