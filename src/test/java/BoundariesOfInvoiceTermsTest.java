@@ -6,6 +6,8 @@ public final class BoundariesOfInvoiceTermsTest {
         invoices();
         frozenEntries();
         runningEntriesAreLeftOut();
+        leftOutEntriesStayActive();
+        nothingCountsBesideALeftOutEntry();
         entryLines();
         dayLines();
         correctionLines();
@@ -63,6 +65,41 @@ public final class BoundariesOfInvoiceTermsTest {
         }
     }
 
+    /** At minute 100: the entry 0 is ended and covers 40 to 80, and the entry 1 of the same client runs since so many minutes. */
+    private static Scene besideARunningOne(char rule, char level, int since) {
+        return Scenes.client(1, 'u', level, 6000, 100).then(x -> x.setRule(rule))
+            .then(x -> x.addEntry(0, 40, 80)).then(x -> x.start(0)).then(x -> x.setStart(1, since));
+    }
+
+    private static void leftOutEntriesStayActive() {
+        check.sentence("Terms, overlaps: the active entries are all entries that cover it (also those that an invoice leaves out of its lines)");
+        char[] rules = {'f', 'l', 's'};
+        int[] dues = {40, 10, 10 + 15};
+        for (int i = 0; i < 3; i++) {
+            int due = dues[i];
+            for (char level : new char[] {'e', 'c', 'd'}) {
+                String what = "beside a running one by " + rules[i] + " and " + level;
+                Scene scene = besideARunningOne(rules[i], level, 50);
+                makesLines(what, scene, (level == 'd' ? "d0:" : "e0:") + due);
+                Scene invoiced = scene.then(x -> x.invoice(0));
+                check.answers(what + ": the running one counts", invoiced, x -> x.counted(1), scene.make().counted(1));
+                check.answers(what + ": the fixed seconds", invoiced.then(x -> x.remove(1)), x -> x.counted(0), 60 * due);
+                check.answers(what + ": by minutes", invoiced.then(x -> x.remove(1)), x -> x.countedByMinutes(0), 60 * due);
+                check.answers(what + ": had it gone before", scene.then(x -> x.remove(1)).then(x -> x.invoice(0)), x -> x.counted(0), 2400);
+            }
+        }
+    }
+
+    private static void nothingCountsBesideALeftOutEntry() {
+        check.sentence("Terms, overlaps: the active entry with the latest start counts .. and the others none (also beside one that an invoice leaves out)");
+        makesLines("none counts, by entry", besideARunningOne('l', 'e', 40), "e0:0");
+        makesLines("none counts, carried", besideARunningOne('l', 'c', 40), "e0:0");
+        makesLines("none counts, by day", besideARunningOne('l', 'd', 40), "");
+        check.answers("frozen without a line", besideARunningOne('l', 'd', 40).then(x -> x.invoice(0)), x -> Snapshot.statesOf(x), "fr");
+        check.answers("fixed at nothing", besideARunningOne('l', 'd', 40).then(x -> x.invoice(0)).then(x -> x.remove(1)), x -> x.counted(0), 0);
+        makesLines("one counts, by day", besideARunningOne('l', 'd', 41), "d0:1");
+    }
+
     private static void entryLines() {
         check.sentence("Terms, invoices: by the levels 'e' and 'c', a line 'e' for each of them, in their order, with its rounded minutes");
         for (char level : new char[] {'e', 'c'}) {
@@ -78,6 +115,9 @@ public final class BoundariesOfInvoiceTermsTest {
         makesLines("an entry of a minute", hours('d', 600, 601), "d1:60");
         makesLines("an entry of all days", hours('d', 0, 2999), "d0:600 d1:600 d2:600 d3:600 d4:600");
         makesLines("an entry up to the last day", hours('d', 599, 2400), "d0:60 d1:600 d2:600 d3:600");
+        Scene another = Scenes.client(60, 'u', 'd', 6000, 2999).then(x -> x.addClient(1, 'u', 'e', 0));
+        makesLines("an entry behind another client's of the last day", another.then(x -> x.addEntry(1, 2400, 2999)).then(x -> x.addEntry(0, 0, 1)), "d0:60");
+        makesLines("an entry before another client's of the first day", another.then(x -> x.addEntry(0, 2400, 2401)).then(x -> x.addEntry(1, 0, 600)), "d4:60");
         Scene twoSeconds = Scenes.inOneMinute(23, 's').then(x -> x.addClient(60, 'd', 'd', 0)).then(x -> x.addEntry(1, 0, 1));
         check.answers("2 seconds, rounded down to nothing", twoSeconds, x -> Snapshot.linesOf(x, x.invoice(1)), "d0:0");
         Scene neverTheLatest = hours('d', 0, 2).then(x -> x.setRule('l'))
@@ -92,6 +132,8 @@ public final class BoundariesOfInvoiceTermsTest {
         makesLines("none", Scenes.frozenEntries(2).then(x -> x.addEntry(0, 0, 1)), "e2:1");
         makesLines("three alone", three, "c1:5 c0:-600 c1:600");
         makesLines("three behind an entry", three.then(x -> x.addEntry(0, 0, 1)), "e2:1 c1:5 c0:-600 c1:600");
+        makesLines("three behind carried minutes", three.then(x -> x.setRounding(0, 1, 'u', 'c')).then(x -> x.addEntry(0, 0, 1)), "e2:1 c1:5 c0:-600 c1:600");
+        makesLines("three behind a day", three.then(x -> x.setRounding(0, 1, 'u', 'd')).then(x -> x.addEntry(0, 0, 1)), "d0:1 c1:5 c0:-600 c1:600");
         makesLines("one behind three that were in an invoice", three.then(x -> x.invoice(0)).then(x -> x.correct(0, 1)), "c0:1");
         check.answers("all 16", Scenes.corrections(16), x -> x.lines(x.invoice(0)), 16);
         makesLines("another client's", Scenes.clients(2).then(x -> x.invoice(1)).then(x -> x.correct(1, 7)), "e0:5");
